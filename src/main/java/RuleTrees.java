@@ -797,12 +797,12 @@ public final class RuleTrees {
         }
 
         private void markEndless(int from, int to) {
-            for (int round = 0; round < MAX_SORTS; round++) {
-                if (!reaches(round, round) || ways[cellOf(round, from, to)] == 0) {
+            for (int back = 0; back < MAX_SORTS; back++) {
+                if (!reaches(back, back) || ways[cellOf(back, from, to)] == 0) {
                     continue;
                 }
                 for (int sort = 0; sort < MAX_SORTS; sort++) {
-                    if (reaches(sort, round)) {
+                    if (reaches(sort, back)) {
                         ways[cellOf(sort, from, to)] = Ways.ENDLESS_WAYS;
                     }
                 }
