@@ -106,7 +106,7 @@ public final class RuleTrees {
         }
         chart.catchUp(row);
         chart.spell(sort, which, row.length, leastCodes);
-        return leastCodes.has(k) ? leastCodes.items[k] : NOTHING;
+        return leastCodes.at(k);
     }
 
     public int stretches(int sort, int what) {
@@ -159,21 +159,18 @@ public final class RuleTrees {
         }
         switch (what) {
             case 0:
-                return grammar.ruleSort[rule];
+                return grammar.sortOfCode(rule);
             case 1:
-                return grammar.ruleLength[rule];
+                return grammar.lengthOfRule(rule);
             case 2:
-                return grammar.slotCount[rule];
+                return grammar.slotsOfCode(rule);
             default:
                 return NONE;
         }
     }
 
     public int symbol(int rule, int k) {
-        if (!grammar.hasRule(rule) || k < 0 || k >= grammar.ruleLength[rule]) {
-            return NOTHING;
-        }
-        return grammar.ruleSymbols[rule * MAX_SYMBOLS + k];
+        return grammar.symbolAt(rule, k);
     }
 
     public int count(int what) {
@@ -233,7 +230,7 @@ public final class RuleTrees {
 
     /** A row of numbers with a limit: symbols or codes. */
     private static final class Symbols {
-        final int[] items;
+        private final int[] items;
         int length;
 
         Symbols(int limit) {
@@ -241,8 +238,8 @@ public final class RuleTrees {
             length = 0;
         }
 
-        boolean has(int k) {
-            return k >= 0 && k < length;
+        int at(int k) {
+            return k >= 0 && k < length && k < items.length ? items[k] : NOTHING;
         }
 
         boolean append(int item) {
@@ -262,8 +259,8 @@ public final class RuleTrees {
 
         void copyOf(Symbols other) {
             length = 0;
-            for (int k = 0; k < other.length && k < other.items.length; k++) {
-                append(other.items[k]);
+            for (int k = 0; k < other.length; k++) {
+                append(other.at(k));
             }
         }
 
@@ -276,13 +273,13 @@ public final class RuleTrees {
                 return length < other.length;
             }
             int k = firstDifference(other);
-            return k < length && items[k] < other.items[k];
+            return k < length && at(k) < other.at(k);
         }
 
         private int firstDifference(Symbols other) {
             int shared = Math.min(length, other.length);
             for (int k = 0; k < shared; k++) {
-                if (items[k] != other.items[k]) {
+                if (at(k) != other.at(k)) {
                     return k;
                 }
             }
@@ -302,13 +299,13 @@ public final class RuleTrees {
         int rules;
         private boolean begun;
         private int begunVariables;
-        final int[] variableSort;
-        final int[] ruleSort;
-        final int[] ruleLength;
-        final int[] ruleSymbols;
-        final int[] symbolSlot;
-        final int[] slotCount;
-        final int[] slotSort;
+        private final int[] variableSort;
+        private final int[] ruleSort;
+        private final int[] ruleLength;
+        private final int[] ruleSymbols;
+        private final int[] symbolSlot;
+        private final int[] slotCount;
+        private final int[] slotSort;
 
         Grammar() {
             variableSort = new int[MAX_VARIABLES];
@@ -347,8 +344,24 @@ public final class RuleTrees {
             return hasRule(code) ? slotCount[code] : 0;
         }
 
+        int lengthOfRule(int rule) {
+            return hasRule(rule) ? ruleLength[rule] : 0;
+        }
+
+        int symbolAt(int rule, int k) {
+            return hasRule(rule) && k >= 0 && k < ruleLength[rule] ? ruleSymbols[rule * MAX_SYMBOLS + k] : NOTHING;
+        }
+
+        int slotAt(int rule, int k) {
+            return hasRule(rule) && k >= 0 && k < ruleLength[rule] ? symbolSlot[rule * MAX_SYMBOLS + k] : NO_SLOT;
+        }
+
+        int sortOfSlot(int rule, int slot) {
+            return hasRule(rule) && slot >= 0 && slot < slotCount[rule] ? slotSort[rule * MAX_SLOTS + slot] : NONE;
+        }
+
         boolean isUnit(int rule) {
-            return hasRule(rule) && ruleLength[rule] == 1 && slotCount[rule] == 1;
+            return lengthOfRule(rule) == 1 && slotsOfCode(rule) == 1;
         }
 
         int begunLength() {
@@ -419,6 +432,9 @@ public final class RuleTrees {
                 }
             }
             int slot = slotCount[rules];
+            if (slot >= MAX_SLOTS) {
+                return NO_SLOT;
+            }
             slotSort[rules * MAX_SLOTS + slot] = variableSort[-1 - symbol];
             slotCount[rules] = slot + 1;
             return slot;
@@ -487,25 +503,32 @@ public final class RuleTrees {
         }
 
         int sizeAt(int tree) {
-            return sizes[tree];
+            return tree >= 0 && tree <= DRAFT ? sizes[tree] : 0;
         }
 
         void forget(int cell) {
-            sizes[treeOf(cell, 0)] = 0;
-            sizes[treeOf(cell, 1)] = 0;
+            if (isCell(cell)) {
+                sizes[treeOf(cell, 0)] = 0;
+                sizes[treeOf(cell, 1)] = 0;
+            }
         }
 
         void startDraft(int head, int partCount) {
             heads[DRAFT] = head;
-            partCounts[DRAFT] = partCount;
+            partCounts[DRAFT] = Math.min(partCount, MAX_SLOTS);
         }
 
         void setDraftPart(int slot, int tree) {
-            parts[DRAFT * MAX_SLOTS + slot] = tree;
+            if (slot >= 0 && slot < MAX_SLOTS && tree >= 0 && tree < DRAFT) {
+                parts[DRAFT * MAX_SLOTS + slot] = tree;
+            }
         }
 
         /** The cell keeps the draft if it is among its two least trees; none is offered twice. */
         void offerDraft(int cell) {
+            if (!isCell(cell)) {
+                return;
+            }
             int least = treeOf(cell, 0);
             int next = treeOf(cell, 1);
             sizes[DRAFT] = draftSize();
@@ -522,7 +545,7 @@ public final class RuleTrees {
 
         void spellTree(int tree, Symbols codes) {
             codes.empty();
-            if (sizes[tree] == 0) {
+            if (sizeAt(tree) == 0) {
                 return;
             }
             int open = 1;
@@ -535,10 +558,14 @@ public final class RuleTrees {
             }
         }
 
+        private static boolean isCell(int cell) {
+            return cell >= 0 && cell < MAX_CELLS;
+        }
+
         private int draftSize() {
             int sum = 1;
             for (int slot = 0; slot < partCounts[DRAFT]; slot++) {
-                sum += sizes[parts[DRAFT * MAX_SLOTS + slot]];
+                sum += sizeAt(parts[DRAFT * MAX_SLOTS + slot]);
             }
             return sum;
         }
@@ -616,7 +643,7 @@ public final class RuleTrees {
         }
 
         int waysOf(int sort, int from, int to) {
-            return ways[cellOf(sort, from, to)];
+            return waysAt(cellOf(sort, from, to));
         }
 
         int sizeOf(int sort, int which, int length) {
@@ -633,10 +660,10 @@ public final class RuleTrees {
                 done = 0;
             }
             for (int at = 0; at < row.length && at < MAX_ROW; at++) {
-                if (at < done && symbols[at] == row.items[at]) {
+                if (at < done && symbols[at] == row.at(at)) {
                     continue;
                 }
-                symbols[at] = row.items[at];
+                symbols[at] = row.at(at);
                 done = at + 1;
                 // From short to long: parts stand on shorter stretches than the whole.
                 for (int from = at; from >= 0; from--) {
@@ -646,7 +673,24 @@ public final class RuleTrees {
         }
 
         private static int cellOf(int sort, int from, int to) {
+            if (sort < 0 || sort >= MAX_SORTS || from < 0 || from >= to || to > MAX_ROW) {
+                return NONE;
+            }
             return (to * (to - 1) / 2 + from) * MAX_SORTS + sort;
+        }
+
+        private int waysAt(int cell) {
+            return cell >= 0 && cell < MAX_CELLS ? ways[cell] : 0;
+        }
+
+        private void setWays(int cell, int told) {
+            if (cell >= 0 && cell < MAX_CELLS) {
+                ways[cell] = told;
+            }
+        }
+
+        private int symbolIn(int at) {
+            return at >= 0 && at < MAX_ROW ? symbols[at] : NOTHING;
         }
 
         private void seeRules() {
@@ -654,13 +698,16 @@ public final class RuleTrees {
                 if (grammar.isUnit(rule) && units < MAX_RULES) {
                     unitRules[units] = rule;
                     units++;
-                    reachFurther(grammar.ruleSort[rule], partSort(rule, 0));
+                    reachFurther(grammar.sortOfCode(rule), grammar.sortOfSlot(rule, 0));
                 }
             }
             rulesSeen = grammar.rules;
         }
 
         private void reachFurther(int whole, int part) {
+            if (part < 0 || part >= MAX_SORTS) {
+                return;
+            }
             int gained = unitReach[part] | (1 << part);
             for (int sort = 0; sort < MAX_SORTS; sort++) {
                 if (sort == whole || reaches(sort, whole)) {
@@ -670,17 +717,13 @@ public final class RuleTrees {
         }
 
         private boolean reaches(int sort, int other) {
-            return ((unitReach[sort] >> other) & 1) == 1;
-        }
-
-        private int partSort(int rule, int slot) {
-            return grammar.slotSort[rule * MAX_SLOTS + slot];
+            return sort >= 0 && sort < MAX_SORTS && ((unitReach[sort] >> other) & 1) == 1;
         }
 
         private void fillStretch(int from, int to) {
             for (int sort = 0; sort < MAX_SORTS; sort++) {
                 int cell = cellOf(sort, from, to);
-                ways[cell] = 0;
+                setWays(cell, 0);
                 table.forget(cell);
             }
             if (to - from == 1) {
@@ -699,19 +742,19 @@ public final class RuleTrees {
         }
 
         private void addLeaf(int at) {
-            int sort = symbols[at] < 0 ? grammar.sortOfCode(symbols[at]) : NONE;
-            if (sort == NONE) {
+            int symbol = symbolIn(at);
+            if (symbol >= 0) {
                 return;
             }
-            int cell = cellOf(sort, at, at + 1);
-            ways[cell] = 1;
-            table.startDraft(symbols[at], 0);
+            int cell = cellOf(grammar.sortOfCode(symbol), at, at + 1);
+            setWays(cell, 1);
+            table.startDraft(symbol, 0);
             table.offerDraft(cell);
         }
 
         /** Goes through all ways to lay the rule's symbols from k on over the row from at on. */
         private void fit(int rule, int from, int to, int k, int at, int bound) {
-            int behind = grammar.ruleLength[rule] - k - 1;
+            int behind = grammar.lengthOfRule(rule) - k - 1;
             if (behind < 0) {
                 if (at == to) {
                     addTrees(rule, from, to);
@@ -722,9 +765,9 @@ public final class RuleTrees {
             if (at >= last) {
                 return;
             }
-            int slot = grammar.symbolSlot[rule * MAX_SYMBOLS + k];
-            if (slot == Grammar.NO_SLOT) {
-                if (symbols[at] == grammar.ruleSymbols[rule * MAX_SYMBOLS + k]) {
+            int slot = grammar.slotAt(rule, k);
+            if (slot < 0 || slot >= MAX_SLOTS) {
+                if (symbolIn(at) == grammar.symbolAt(rule, k)) {
                     fit(rule, from, to, k + 1, at + 1, bound);
                 }
             } else if (slot < bound) {
@@ -733,9 +776,9 @@ public final class RuleTrees {
                     fit(rule, from, to, k + 1, end, bound);
                 }
             } else {
-                int sort = partSort(rule, slot);
+                int sort = grammar.sortOfSlot(rule, slot);
                 for (int end = behind == 0 ? last : at + 1; end <= last; end++) {
-                    if (ways[cellOf(sort, at, end)] > 0) {
+                    if (waysOf(sort, at, end) > 0) {
                         spanFrom[slot] = at;
                         spanTo[slot] = end;
                         fit(rule, from, to, k + 1, end, bound + 1);
@@ -746,7 +789,7 @@ public final class RuleTrees {
 
         private boolean hasSameSymbols(int one, int other, int length) {
             for (int k = 0; k < length; k++) {
-                if (symbols[one + k] != symbols[other + k]) {
+                if (symbolIn(one + k) != symbolIn(other + k)) {
                     return false;
                 }
             }
@@ -755,20 +798,20 @@ public final class RuleTrees {
 
         /** The spans are set for all the rule's slots. */
         private void addTrees(int rule, int from, int to) {
-            int cell = cellOf(grammar.ruleSort[rule], from, to);
-            int slots = grammar.slotCount[rule];
+            int cell = cellOf(grammar.sortOfCode(rule), from, to);
+            int slots = grammar.slotsOfCode(rule);
             int product = 1;
             table.startDraft(rule, slots);
             for (int slot = 0; slot < slots; slot++) {
-                int part = cellOf(partSort(rule, slot), spanFrom[slot], spanTo[slot]);
-                product = Ways.times(product, ways[part]);
+                int part = partCell(rule, slot);
+                product = Ways.times(product, waysAt(part));
                 table.setDraftPart(slot, TreeTable.treeOf(part, 0));
             }
-            ways[cell] = Ways.plus(ways[cell], product);
+            setWays(cell, Ways.plus(waysAt(cell), product));
             table.offerDraft(cell);
             // Behind the least tree of this way comes one with a single part that is not the least.
             for (int slot = 0; slot < slots; slot++) {
-                int part = cellOf(partSort(rule, slot), spanFrom[slot], spanTo[slot]);
+                int part = partCell(rule, slot);
                 if (table.sizeAt(TreeTable.treeOf(part, 1)) > 0) {
                     table.setDraftPart(slot, TreeTable.treeOf(part, 1));
                     table.offerDraft(cell);
@@ -777,33 +820,40 @@ public final class RuleTrees {
             }
         }
 
+        private int partCell(int rule, int slot) {
+            if (slot < 0 || slot >= MAX_SLOTS) {
+                return NONE;
+            }
+            return cellOf(grammar.sortOfSlot(rule, slot), spanFrom[slot], spanTo[slot]);
+        }
+
         /** Right where no sort comes back to itself: a chain of unit rules has less than 6 then. */
         private void addUnitWays(int from, int to) {
             for (int sort = 0; sort < MAX_SORTS; sort++) {
-                ownWays[sort] = ways[cellOf(sort, from, to)];
+                ownWays[sort] = waysOf(sort, from, to);
             }
             for (int round = 0; round < MAX_SORTS; round++) {
                 for (int sort = 0; sort < MAX_SORTS; sort++) {
                     int sum = ownWays[sort];
                     for (int unit = 0; unit < units; unit++) {
                         int rule = unitRules[unit];
-                        if (grammar.ruleSort[rule] == sort) {
-                            sum = Ways.plus(sum, ways[cellOf(partSort(rule, 0), from, to)]);
+                        if (grammar.sortOfCode(rule) == sort) {
+                            sum = Ways.plus(sum, waysOf(grammar.sortOfSlot(rule, 0), from, to));
                         }
                     }
-                    ways[cellOf(sort, from, to)] = sum;
+                    setWays(cellOf(sort, from, to), sum);
                 }
             }
         }
 
         private void markEndless(int from, int to) {
             for (int back = 0; back < MAX_SORTS; back++) {
-                if (!reaches(back, back) || ways[cellOf(back, from, to)] == 0) {
+                if (!reaches(back, back) || waysOf(back, from, to) == 0) {
                     continue;
                 }
                 for (int sort = 0; sort < MAX_SORTS; sort++) {
                     if (reaches(sort, back)) {
-                        ways[cellOf(sort, from, to)] = Ways.ENDLESS_WAYS;
+                        setWays(cellOf(sort, from, to), Ways.ENDLESS_WAYS);
                     }
                 }
             }
@@ -821,8 +871,8 @@ public final class RuleTrees {
         }
 
         private void offerUnit(int rule, int from, int to, int size) {
-            int cell = cellOf(grammar.ruleSort[rule], from, to);
-            int part = cellOf(partSort(rule, 0), from, to);
+            int cell = cellOf(grammar.sortOfCode(rule), from, to);
+            int part = cellOf(grammar.sortOfSlot(rule, 0), from, to);
             for (int which = 0; which < 2; which++) {
                 int tree = TreeTable.treeOf(part, which);
                 if (table.sizeAt(tree) == size) {
@@ -891,7 +941,7 @@ public final class RuleTrees {
             int open = 1;
             awaited[0] = sort;
             for (int at = 0; at < codes.length; at++) {
-                int code = codes.items[at];
+                int code = codes.at(at);
                 faultPlace = at;
                 if (open == 0) {
                     return BEHIND_TREE;
@@ -913,7 +963,7 @@ public final class RuleTrees {
         private int awaitParts(int code, int open) {
             int top = open;
             for (int slot = grammar.slotsOfCode(code) - 1; slot >= 0 && top < MAX_AWAITED; slot--) {
-                awaited[top] = grammar.slotSort[code * MAX_SLOTS + slot];
+                awaited[top] = grammar.sortOfSlot(code, slot);
                 top++;
             }
             return top;
@@ -927,7 +977,7 @@ public final class RuleTrees {
             grown.empty();
             waiting = 0;
             for (int at = codes.length - 1; at >= 0; at--) {
-                int code = codes.items[at];
+                int code = codes.at(at);
                 joined.empty();
                 if (code < 0) {
                     joined.append(code);
@@ -946,11 +996,10 @@ public final class RuleTrees {
             if (slots > waiting) {
                 return false;
             }
-            int first = rule * MAX_SYMBOLS;
-            for (int k = 0; k < grammar.ruleLength[rule]; k++) {
-                int slot = grammar.symbolSlot[first + k];
+            for (int k = 0; k < grammar.lengthOfRule(rule); k++) {
+                int slot = grammar.slotAt(rule, k);
                 boolean fits = slot == Grammar.NO_SLOT
-                    ? joined.append(grammar.ruleSymbols[first + k])
+                    ? joined.append(grammar.symbolAt(rule, k))
                     : joinWaiting(waiting - 1 - slot);
                 if (!fits) {
                     return false;
@@ -964,9 +1013,12 @@ public final class RuleTrees {
         }
 
         private boolean joinWaiting(int tree) {
+            if (tree < 0 || tree >= waiting || waiting > MAX_ROW) {
+                return false;
+            }
             int end = tree == waiting - 1 ? grown.length : starts[tree + 1];
             for (int at = starts[tree]; at < end; at++) {
-                if (!joined.append(grown.items[at])) {
+                if (!joined.append(grown.at(at))) {
                     return false;
                 }
             }
@@ -980,7 +1032,7 @@ public final class RuleTrees {
             starts[waiting] = grown.length;
             waiting++;
             for (int k = 0; k < joined.length; k++) {
-                if (!grown.append(joined.items[k])) {
+                if (!grown.append(joined.at(k))) {
                     return false;
                 }
             }
@@ -1005,23 +1057,30 @@ public final class RuleTrees {
             }
             for (int round = 0; round < MAX_SORTS; round++) {
                 for (int rule = 0; rule < grammar.rules; rule++) {
-                    shorten(grammar.ruleSort[rule], lengthBy(rule));
+                    shorten(grammar.sortOfCode(rule), lengthBy(rule));
                 }
             }
-            return lengths[sort];
+            return lengthSoFar(sort);
+        }
+
+        private int lengthSoFar(int sort) {
+            return sort >= 0 && sort < MAX_SORTS ? lengths[sort] : NONE;
         }
 
         private void shorten(int sort, int length) {
-            if (length != NONE && (lengths[sort] == NONE || length < lengths[sort])) {
+            if (sort < 0 || sort >= MAX_SORTS || length == NONE) {
+                return;
+            }
+            if (lengths[sort] == NONE || length < lengths[sort]) {
                 lengths[sort] = length;
             }
         }
 
         private int lengthBy(int rule) {
             int sum = 0;
-            for (int k = 0; k < grammar.ruleLength[rule]; k++) {
-                int slot = grammar.symbolSlot[rule * MAX_SYMBOLS + k];
-                int length = slot == Grammar.NO_SLOT ? 1 : lengths[grammar.slotSort[rule * MAX_SLOTS + slot]];
+            for (int k = 0; k < grammar.lengthOfRule(rule); k++) {
+                int slot = grammar.slotAt(rule, k);
+                int length = slot == Grammar.NO_SLOT ? 1 : lengthSoFar(grammar.sortOfSlot(rule, slot));
                 if (length == NONE) {
                     return NONE;
                 }
