@@ -1,74 +1,12 @@
 import java.util.Arrays;
 
 /** For each promise of the document: ordinary inputs, the edges that it names, and wrong inputs. */
-public final class PromiseTests {
-    private static final int NONE = -1;
-    private static final int NOTHING = -1000;
-    private static final int[] WRONG = {-1, 6, 30, 1000, Integer.MIN_VALUE, Integer.MAX_VALUE};
-
-    private static int wrong = 0;
-    private static int promise = 0;
-
+public final class PromiseTests extends TestKit {
     private PromiseTests() {
     }
 
-    private static void due(String call, int got, int want) {
-        if (got != want) {
-            wrong++;
-            System.out.println("promise " + promise + ": " + call + " answered " + got + ", due is " + want);
-        }
-    }
-
-    private static void dueCodes(String what, int[] got, int... want) {
-        if (!Arrays.equals(got, want)) {
-            wrong++;
-            System.out.println("promise " + promise + ": " + what + " told " + Arrays.toString(got)
-                + ", due is " + Arrays.toString(want));
-        }
-    }
-
-    private static RuleTrees withSorts(int sorts) {
-        RuleTrees x = new RuleTrees();
-        for (int k = 0; k < sorts; k++) {
-            x.sort();
-        }
-        return x;
-    }
-
-    private static int rule(RuleTrees x, int sort, int... symbols) {
-        due("begin(" + sort + ")", x.begin(sort), 1);
-        for (int k = 0; k < symbols.length; k++) {
-            due("put(" + symbols[k] + ")", x.put(symbols[k]), k + 1);
-        }
-        return x.close();
-    }
-
-    private static void row(RuleTrees x, int... symbols) {
-        x.drop();
-        for (int k = 0; k < symbols.length; k++) {
-            due("token(" + symbols[k] + ")", x.token(symbols[k]), k + 1);
-        }
-    }
-
-    private static void tape(RuleTrees x, int... codes) {
-        x.clear();
-        for (int k = 0; k < codes.length; k++) {
-            due("type(" + codes[k] + ")", x.type(codes[k]), k + 1);
-        }
-    }
-
-    private static int[] codes(RuleTrees x, int sort, int which) {
-        int[] codes = new int[x.size(sort, which)];
-        for (int k = 0; k < codes.length; k++) {
-            codes[k] = x.code(sort, which, k);
-        }
-        due("code behind the last", x.code(sort, which, codes.length), NOTHING);
-        due("code(-1)", x.code(sort, which, -1), NOTHING);
-        return codes;
-    }
-
     private static void newObject() {
-        promise = 1;
+        of("promise 1");
         RuleTrees x = new RuleTrees();
         for (int what = 0; what <= 5; what++) {
             due("count(" + what + ")", x.count(what), 0);
@@ -84,7 +22,7 @@ public final class PromiseTests {
     }
 
     private static void sorts() {
-        promise = 2;
+        of("promise 2");
         RuleTrees x = new RuleTrees();
         for (int k = 0; k < 6; k++) {
             due("sort()", x.sort(), k);
@@ -102,7 +40,7 @@ public final class PromiseTests {
     }
 
     private static void variables() {
-        promise = 3;
+        of("promise 3");
         RuleTrees x = new RuleTrees();
         due("variable(0) without sorts", x.variable(0), NONE);
         x.sort();
@@ -123,7 +61,7 @@ public final class PromiseTests {
     }
 
     private static void begins() {
-        promise = 4;
+        of("promise 4");
         RuleTrees x = new RuleTrees();
         due("begin(0) without sorts", x.begin(0), 0);
         x.sort();
@@ -147,7 +85,7 @@ public final class PromiseTests {
     }
 
     private static void puts() {
-        promise = 5;
+        of("promise 5");
         RuleTrees x = withSorts(1);
         due("put(0) with none begun", x.put(0), NONE);
         x.begin(0);
@@ -178,7 +116,7 @@ public final class PromiseTests {
     }
 
     private static void closes() {
-        promise = 6;
+        of("promise 6");
         RuleTrees x = withSorts(2);
         due("close() with none begun", x.close(), NONE);
         x.begin(1);
@@ -198,7 +136,7 @@ public final class PromiseTests {
     }
 
     private static void tokens() {
-        promise = 7;
+        of("promise 7");
         RuleTrees x = withSorts(1);
         due("token(-1) without variables", x.token(-1), NONE);
         x.variable(0);
@@ -217,7 +155,7 @@ public final class PromiseTests {
     }
 
     private static void drops() {
-        promise = 8;
+        of("promise 8");
         RuleTrees x = withSorts(1);
         rule(x, 0, 1);
         row(x, 1, 2, 3);
@@ -243,7 +181,7 @@ public final class PromiseTests {
     }
 
     private static void countsOfTrees() {
-        promise = 9;
+        of("promise 9");
         RuleTrees x = binary();
         row(x, 0, 0, 0, 0, 0, 0, 0, 0, 0, 0, 0, 0);
         int[] catalan = {1, 1, 2, 5, 14, 42, 132, 429, 1430, 4862, 16796, 58786};
@@ -357,7 +295,7 @@ public final class PromiseTests {
     }
 
     private static void sizesAndCodes() {
-        promise = 10;
+        of("promise 10");
         RuleTrees x = binary();
         x.sort();
         due("size(0, 0) of the empty row", x.size(0, 0), 0);
@@ -378,7 +316,7 @@ public final class PromiseTests {
         due("size(0, 1) of the other", x.size(0, 1), 3);
         row(x, 0, 1);
         due("size(0, 0) without trees", x.size(0, 0), 0);
-        promise = 11;
+        of("promise 11");
         codesOfTrees();
         codesInOrder();
         codesOfRounds();
@@ -501,7 +439,7 @@ public final class PromiseTests {
     }
 
     private static void stretchKinds() {
-        promise = 12;
+        of("promise 12");
         RuleTrees x = binary();
         for (int what = 0; what <= 3; what++) {
             due("stretches(0, " + what + ") of the empty row", x.stretches(0, what), 0);
@@ -526,14 +464,14 @@ public final class PromiseTests {
     }
 
     private static void tapes() {
-        promise = 13;
+        of("promise 13");
         RuleTrees x = new RuleTrees();
         for (int k = 1; k <= 200; k++) {
             due("type()", x.type(k % 2 == 0 ? Integer.MIN_VALUE : Integer.MAX_VALUE), k);
         }
         due("a 201st type()", x.type(0), NONE);
         due("count(4)", x.count(4), 200);
-        promise = 14;
+        of("promise 14");
         due("clear()", x.clear(), 200);
         due("count(4)", x.count(4), 0);
         due("clear() again", x.clear(), 0);
@@ -555,7 +493,7 @@ public final class PromiseTests {
     }
 
     private static void grows() {
-        promise = 15;
+        of("promise 15");
         RuleTrees x = growing();
         tape(x, 0, 1, 2, 3, -3);
         due("grow(0)", x.grow(0), 0);
@@ -579,10 +517,10 @@ public final class PromiseTests {
         int length = x.count(3);
         tape(x, codes);
         String of = " of " + Arrays.toString(codes);
-        promise = 15;
+        of("promise 15");
         due("grow(" + sort + ")" + of, x.grow(sort), verdict);
         due("count(3)" + of, x.count(3), length);
-        promise = 16;
+        of("promise 16");
         due("place()" + of, x.place(), place);
         due("grow(6)" + of, x.grow(6), NONE);
         due("place() stays" + of, x.place(), place);
@@ -611,10 +549,10 @@ public final class PromiseTests {
         x.put(9);
         fault(x, 0, 2, 0, 5);
         x.close();
-        promise = 15;
+        of("promise 15");
         due("grow(0) when it is closed", x.grow(0), 0);
         due("count(3)", x.count(3), 1);
-        promise = 16;
+        of("promise 16");
         due("place() after 0", x.place(), NONE);
         x.type(5);
         x.grow(0);
@@ -622,7 +560,7 @@ public final class PromiseTests {
     }
 
     private static void lengthsOfGrowing() {
-        promise = 15;
+        of("promise 15");
         RuleTrees x = withSorts(1);
         x.variable(0);
         x.variable(0);
@@ -641,7 +579,7 @@ public final class PromiseTests {
         fault(x, 0, 5, NONE, 0, 0, 0, 0, -1);
         fault(x, 0, 5, NONE, 2, 1, 0, 0, -1);
         fault(x, 0, 4, 5, 0, 0, 0, 0, -1, 1);
-        promise = 15;
+        of("promise 15");
         x.clear();
         for (int k = 0; k < 199; k++) {
             x.type(0);
@@ -658,12 +596,12 @@ public final class PromiseTests {
             x.type(0);
         }
         due("200 rules that await 601 trees", x.grow(0), 1);
-        promise = 16;
+        of("promise 16");
         due("place()", x.place(), 200);
     }
 
     private static void shortestRows() {
-        promise = 17;
+        of("promise 17");
         RuleTrees x = new RuleTrees();
         due("shortest(0) without sorts", x.shortest(0), NONE);
         for (int sort = 0; sort < 6; sort++) {
@@ -697,7 +635,7 @@ public final class PromiseTests {
     }
 
     private static void rulesTold() {
-        promise = 18;
+        of("promise 18");
         RuleTrees x = withSorts(3);
         x.variable(1);
         x.variable(2);
@@ -717,7 +655,7 @@ public final class PromiseTests {
             due("about(" + bad + ", 0)", x.about(bad, 0), NONE);
             due("about(0, " + bad + ")", x.about(0, bad), NONE);
         }
-        promise = 19;
+        of("promise 19");
         int[] symbols = {4, -2, 5, -1, -2};
         for (int k = 0; k < symbols.length; k++) {
             due("symbol(0, " + k + ")", x.symbol(0, k), symbols[k]);
@@ -733,7 +671,7 @@ public final class PromiseTests {
     }
 
     private static void counts() {
-        promise = 20;
+        of("promise 20");
         RuleTrees x = withSorts(2);
         x.variable(0);
         x.variable(0);
@@ -757,7 +695,7 @@ public final class PromiseTests {
     }
 
     private static void checks() {
-        promise = 21;
+        of("promise 21");
         RuleTrees x = growing();
         due("check() of the empty row", x.check(), 1);
         tape(x, 0, 1, 2, 3, -3);
@@ -797,9 +735,6 @@ public final class PromiseTests {
         rulesTold();
         counts();
         checks();
-        System.out.println(wrong == 0 ? "all promises hold" : wrong + " answers are not as due");
-        if (wrong != 0) {
-            System.exit(1);
-        }
+        end();
     }
 }
