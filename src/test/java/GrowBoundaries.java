@@ -8,20 +8,8 @@ public final class GrowBoundaries extends TestKit {
     private GrowBoundaries() {
     }
 
-    /**
-     * Sort 0: two parts with a 0 between them (rule 0), 1 on both sides (rule 1), or an item (rule 2);
-     * items are 3 and 4 (rules 3, 4). Variables 0 and 2 are of sort 0, variable 1 is an item.
-     */
     private static RuleTrees small() {
-        RuleTrees x = withSorts(2);
-        x.variable(0);
-        x.variable(1);
-        x.variable(0);
-        rule(x, 0, -1, 0, -3);
-        rule(x, 0, 1, -1, 1);
-        rule(x, 0, -2);
-        rule(x, 1, 3);
-        rule(x, 1, 4);
+        RuleTrees x = items();
         row(x, 4, 0, 3);
         return x;
     }
@@ -97,6 +85,21 @@ public final class GrowBoundaries extends TestKit {
         due("stretches(0, 0)", x.stretches(0, 0), 0);
     }
 
+    private static void growTwelveByTwoParts() {
+        RuleTrees x = typed(doubling(), 3, 0, 1, 0, 1);
+        due("grow(0) of 6 and 6 symbols", x.grow(0), 0);
+        due("count(3)", x.count(3), 12);
+        x = typed(doubling(), 3, 0, 1, 2, 0, 1);
+        due("grow(0) of 6 and 7 symbols", x.grow(0), 5);
+        x = typed(doubling(), 3, 2, 0, 1, 0, 1);
+        due("grow(0) of 7 and 6 symbols", x.grow(0), 5);
+        x = typed(doubling(), 3, 0, 0, 1, -1);
+        due("grow(0) of 12 symbols and 1", x.grow(0), 5);
+        x = typed(doubling(), 3, -1, 0, 0, 1);
+        due("grow(0) of 1 symbol and 12", x.grow(0), 5);
+        due("count(3)", x.count(3), 0);
+    }
+
     private static void growFullTape() {
         RuleTrees x = withVariables(1);
         rule(x, 0, -1);
@@ -153,6 +156,15 @@ public final class GrowBoundaries extends TestKit {
         tape(x, times(200, 0));
         due("grow(0)", x.grow(0), 1);
         due("place()", x.place(), 200);
+        // Only a rule's first part is of sort 0, so no code may forget which part comes next.
+        x = withSorts(2);
+        for (int sort : new int[] {0, 1, 1, 1}) {
+            x.variable(sort);
+        }
+        rule(x, 0, -1, -2, -3, -4);
+        tape(x, times(200, 0));
+        due("grow(0) with parts of another sort", x.grow(0), 1);
+        due("place() with parts of another sort", x.place(), 200);
     }
 
     private static void noSuchRule() {
@@ -334,6 +346,7 @@ public final class GrowBoundaries extends TestKit {
         sentence("Promise 15", "the row is its symbols", GrowBoundaries::growFromTheEmptyRow);
         sentence("Terms", "The ROW has at most 12 symbols", GrowBoundaries::growTwelve);
         sentence("Terms", "at most 12 symbols", GrowBoundaries::growTwelveLeaves);
+        sentence("Terms", "at most 12", GrowBoundaries::growTwelveByTwoParts);
         sentence("Promise 15", "The tape's codes as a tree of a sort", GrowBoundaries::growFullTape);
         sentence("Promise 15", "The tape's codes", GrowBoundaries::growTwice);
         sentence("Terms", "in the order in which these stand in it first", GrowBoundaries::growPartsInOrder);

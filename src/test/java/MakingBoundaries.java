@@ -286,12 +286,13 @@ public final class MakingBoundaries extends TestKit {
         refused("one behind two that stand twice", NONE, () -> begun(7, -1, -2, 7, -1, -2), x -> x.put(-2));
         RuleTrees x = begun(-1, -2, -2, -1);
         x.put(-1);
-        due("a constant behind four variables", x.put(6), 5);
+        due("a constant behind four variables", x.put(0), 5);
         due("a fifth variable behind a constant", x.put(-1), NONE);
         due("close()", x.close(), 0);
         due("about(0, 1)", x.about(0, 1), 5);
         x.begin(0);
         due("the next rule's first variable", x.put(-1), 1);
+        due("a fourth variable behind four constants", begun(0, 0, 0, 0, -1, -2, -1).put(-2), 8);
     }
 
     // Promise 6.

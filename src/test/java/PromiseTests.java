@@ -170,19 +170,9 @@ public final class PromiseTests extends TestKit {
         due("trees(0, 1, 2) of the new row", x.trees(0, 1, 2), 1);
     }
 
-    /** S: x y | a. Row of n a: the Catalan numbers. */
-    private static RuleTrees binary() {
-        RuleTrees x = withSorts(1);
-        x.variable(0);
-        x.variable(0);
-        rule(x, 0, -1, -2);
-        rule(x, 0, 0);
-        return x;
-    }
-
     private static void countsOfTrees() {
         of("promise 9");
-        RuleTrees x = binary();
+        RuleTrees x = pairs();
         row(x, 0, 0, 0, 0, 0, 0, 0, 0, 0, 0, 0, 0);
         int[] catalan = {1, 1, 2, 5, 14, 42, 132, 429, 1430, 4862, 16796, 58786};
         for (int n = 1; n <= 12; n++) {
@@ -296,7 +286,7 @@ public final class PromiseTests extends TestKit {
 
     private static void sizesAndCodes() {
         of("promise 10");
-        RuleTrees x = binary();
+        RuleTrees x = pairs();
         x.sort();
         due("size(0, 0) of the empty row", x.size(0, 0), 0);
         row(x, 0, 0, 0);
@@ -323,7 +313,7 @@ public final class PromiseTests extends TestKit {
     }
 
     private static void codesOfTrees() {
-        RuleTrees x = binary();
+        RuleTrees x = pairs();
         due("code(0, 0, 0) of the empty row", x.code(0, 0, 0), NOTHING);
         row(x, 0, 0, 0);
         dueCodes("the least", codes(x, 0, 0), 0, 0, 1, 1, 1);
@@ -363,7 +353,7 @@ public final class PromiseTests extends TestKit {
         dueCodes("the least of three", codes(x, 0, 0), 0, -2, -3, 1, -4, -2);
         dueCodes("the next of three", codes(x, 0, 1), 0, -2, 1, -3, -4, -2);
         // Size before codes: a rule with a great number and few parts comes first.
-        x = binary();
+        x = pairs();
         x.variable(0);
         rule(x, 0, -1, -2, -3);
         row(x, 0, 0, 0);
@@ -440,7 +430,7 @@ public final class PromiseTests extends TestKit {
 
     private static void stretchKinds() {
         of("promise 12");
-        RuleTrees x = binary();
+        RuleTrees x = pairs();
         for (int what = 0; what <= 3; what++) {
             due("stretches(0, " + what + ") of the empty row", x.stretches(0, what), 0);
         }
@@ -478,23 +468,9 @@ public final class PromiseTests extends TestKit {
         due("type()", x.type(5), 1);
     }
 
-    /** Sort 0: x ; y (rule 0) or "1 x 1" (rule 1) or an item (rule 2); items: 3 and 4 (rules 3, 4). */
-    private static RuleTrees growing() {
-        RuleTrees x = withSorts(2);
-        x.variable(0);
-        x.variable(1);
-        x.variable(0);
-        rule(x, 0, -1, 0, -3);
-        rule(x, 0, 1, -1, 1);
-        rule(x, 0, -2);
-        rule(x, 1, 3);
-        rule(x, 1, 4);
-        return x;
-    }
-
     private static void grows() {
         of("promise 15");
-        RuleTrees x = growing();
+        RuleTrees x = items();
         tape(x, 0, 1, 2, 3, -3);
         due("grow(0)", x.grow(0), 0);
         due("count(3)", x.count(3), 5);
@@ -527,7 +503,7 @@ public final class PromiseTests extends TestKit {
     }
 
     private static void faultsOfGrowing() {
-        RuleTrees x = growing();
+        RuleTrees x = items();
         due("place() before any grow()", x.place(), NONE);
         fault(x, 0, 1, 0);
         fault(x, 0, 1, 1, 0);
@@ -696,7 +672,7 @@ public final class PromiseTests extends TestKit {
 
     private static void checks() {
         of("promise 21");
-        RuleTrees x = growing();
+        RuleTrees x = items();
         due("check() of the empty row", x.check(), 1);
         tape(x, 0, 1, 2, 3, -3);
         x.grow(0);

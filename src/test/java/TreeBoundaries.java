@@ -6,16 +6,6 @@ public final class TreeBoundaries extends TestKit {
     private TreeBoundaries() {
     }
 
-    /** One sort: two parts side by side (rule 0), or the constant 0 (rule 1). */
-    private static RuleTrees pairs() {
-        RuleTrees x = withSorts(1);
-        x.variable(0);
-        x.variable(0);
-        rule(x, 0, -1, -2);
-        rule(x, 0, 0);
-        return x;
-    }
-
     /** A round through two sorts above the constant 5 (rule 2), and a third sort beside it, 6. */
     private static RuleTrees round() {
         RuleTrees x = withVariables(3);
@@ -84,6 +74,22 @@ public final class TreeBoundaries extends TestKit {
         due("in another length", x.trees(0, 0, 8), 0);
     }
 
+    private static void sameInEverySymbol() {
+        RuleTrees x = withVariables(2);
+        rule(x, 1, 9, -1, -1);
+        rule(x, 0, 1, 2);
+        rule(x, 0, 1, 3);
+        rule(x, 0, 2, 1);
+        row(x, 9, 1, 2, 1, 2);
+        due("1 2 twice", x.trees(1, 0, 5), 1);
+        row(x, 9, 1, 2, 1, 3);
+        due("the last symbol is another", x.trees(1, 0, 5), 0);
+        row(x, 9, 1, 2, 2, 1);
+        due("the second time backwards", x.trees(1, 0, 5), 0);
+        row(x, 9, 1, 3, 1, 3);
+        dueCodes("1 3 twice", codes(x, 1, 0), 0, 2);
+    }
+
     private static void differentVariablesDiffer() {
         RuleTrees x = withSorts(1);
         x.variable(0);
@@ -142,6 +148,18 @@ public final class TreeBoundaries extends TestKit {
         dueCodes("a rule's code is more", codes(x, 0, 1), 0, 0, -1, -2, -1);
     }
 
+    private static void rulesThatAreAlike() {
+        RuleTrees x = withSorts(1);
+        for (int k = 0; k < 4; k++) {
+            rule(x, 0, 7);
+        }
+        row(x, 7);
+        due("trees(0, 0, 1)", x.trees(0, 0, 1), 4);
+        dueCodes("the least", codes(x, 0, 0), 0);
+        dueCodes("the next", codes(x, 0, 1), 1);
+        due("check()", x.check(), 1);
+    }
+
     // Promise 9, with the constants.
 
     private static void noTrees() {
@@ -166,6 +184,52 @@ public final class TreeBoundaries extends TestKit {
         rule(x, 3, -6);
         due("the same by one rule more", x.trees(3, 0, 6), 1000000);
         due("stretches(2, 2)", x.stretches(2, 2), 1);
+    }
+
+    /** Each symbol more makes ten times as many and nine more; the sixth only eight more at first. */
+    private static void upToAMillion() {
+        RuleTrees x = withVariables(2);
+        for (int k = 0; k < 8; k++) {
+            rule(x, 1, 7);
+        }
+        rule(x, 1, -2, 7);
+        rule(x, 0, -2);
+        for (int k = 0; k < 10; k++) {
+            rule(x, 0, -1, 7);
+        }
+        for (int length = 1; length <= 5; length++) {
+            rule(x, 0, times(length, 7));
+        }
+        row(x, times(6, 7));
+        int[] told = {9, 99, 999, 9999, 99999, 999998};
+        for (int length = 1; length <= 6; length++) {
+            due("trees(0, 0, " + length + ")", x.trees(0, 0, length), told[length - 1]);
+        }
+        rule(x, 0, times(6, 7));
+        due("one more", x.trees(0, 0, 6), 999999);
+        rule(x, 0, times(6, 7));
+        due("two more", x.trees(0, 0, 6), 1000000);
+        rule(x, 0, times(6, 7));
+        due("three more", x.trees(0, 0, 6), RuleTrees.MANY);
+    }
+
+    private static void thirtyRulesOfOneVariable() {
+        RuleTrees x = withVariables(2);
+        for (int k = 0; k < 30; k++) {
+            rule(x, 1, -1);
+        }
+        row(x, -1);
+        due("trees(1, 0, 1)", x.trees(1, 0, 1), 30);
+        dueCodes("the least", codes(x, 1, 0), 0, -1);
+        dueCodes("the next", codes(x, 1, 1), 1, -1);
+        x = withVariables(2);
+        for (int k = 0; k < 29; k++) {
+            rule(x, 0, -2);
+        }
+        row(x, -1);
+        due("29 rules that lead nowhere", x.trees(0, 0, 1), 1);
+        rule(x, 0, -1);
+        due("the thirtieth makes a round", x.trees(0, 0, 1), RuleTrees.ENDLESS);
     }
 
     private static void aMillionAndOne() {
@@ -301,6 +365,41 @@ public final class TreeBoundaries extends TestKit {
             due("in the round", x.trees(sort, 0, 1), RuleTrees.ENDLESS);
         }
         dueCodes("the next goes around once", codes(x, 0, 1), 0, 1, 2, 3, 4, 6, 0, 1, 2, 3, 4, 5);
+    }
+
+    private static void theRoundOfTheLastSort() {
+        RuleTrees x = withVariables(6);
+        for (int sort = 1; sort < 6; sort++) {
+            rule(x, sort, -sort);
+        }
+        row(x, -1, 4);
+        due("the sixth sort above the first", x.trees(5, 0, 1), 1);
+        rule(x, 5, -6);
+        due("the sixth sort of itself", x.trees(5, 0, 1), RuleTrees.ENDLESS);
+        due("the fifth sort below it", x.trees(4, 0, 1), 1);
+        due("over nothing", x.trees(5, 1, 2), 0);
+        row(x, -1);
+        dueCodes("the least goes five steps up", codes(x, 5, 0), 4, 3, 2, 1, 0, -1);
+        dueCodes("the next goes around once", codes(x, 5, 1), 5, 4, 3, 2, 1, 0, -1);
+    }
+
+    /** Sort 0 stands above a round in sort 1 and, by another rule, above sort 2. */
+    private static void aboveARoundAndAnother() {
+        for (int first = 1; first <= 2; first++) {
+            RuleTrees x = withVariables(3);
+            rule(x, 1, -2);
+            rule(x, 0, -1 - first);
+            rule(x, 0, -1 - (3 - first));
+            row(x, -2, -3);
+            due("above the round", x.trees(0, 0, 1), RuleTrees.ENDLESS);
+            due("above the other", x.trees(0, 1, 2), 1);
+        }
+        RuleTrees x = withVariables(3);
+        rule(x, 0, -2);
+        rule(x, 0, -3);
+        rule(x, 1, -2);
+        row(x, -2, -3);
+        due("above a round that comes last", x.trees(0, 0, 1), RuleTrees.ENDLESS);
     }
 
     private static void treesOfNoSort() {
@@ -464,6 +563,32 @@ public final class TreeBoundaries extends TestKit {
         due("size(0, 0) of another row", x.size(0, 0), 4);
     }
 
+    private static void treesOfTheOldRowAreGone() {
+        RuleTrees x = threeInARow();
+        due("size(0, 1)", x.size(0, 1), 5);
+        row(x, 0, 0, 1);
+        due("size(0, 0) of a row without trees", x.size(0, 0), 0);
+        due("size(0, 1) of a row without trees", x.size(0, 1), 0);
+        due("code(0, 1, 0) of a row without trees", x.code(0, 1, 0), NOTHING);
+        rule(x, 0, -1, 2, 2);
+        row(x, 0, 0, 0);
+        due("size(0, 1)", x.size(0, 1), 5);
+        row(x, -1, 2, 2);
+        dueCodes("the only tree of a new row", codes(x, 0, 0), 2, -1);
+        due("size(0, 1) of a row with one tree", x.size(0, 1), 0);
+        // The old trees are less than the new one: they must not stand in its way.
+        x = pairs();
+        rule(x, 0, 0, 0);
+        row(x, 0, 0);
+        due("size(0, 1)", x.size(0, 1), 3);
+        rule(x, 0, 1);
+        int more = -1 - x.variable(0);
+        rule(x, 0, more);
+        row(x, 1, 0);
+        dueCodes("the least of the new row", codes(x, 0, 0), 0, 3, 1);
+        dueCodes("the next of the new row", codes(x, 0, 1), 0, 3, 4, 1);
+    }
+
     // Promise 12.
 
     private static void stretchesOfTheEmptyRow() {
@@ -530,6 +655,11 @@ public final class TreeBoundaries extends TestKit {
         x.close();
         due("the rule when it is closed", x.shortest(1), 1);
         due("the sort above it", x.shortest(0), 2);
+        x = withVariables(2);
+        rule(x, 0, 3, -2);
+        rule(x, 0, 5, 5, 5);
+        rule(x, 0, 6, -2);
+        due("a rule of constants between two with a sort that has none", x.shortest(0), 3);
     }
 
     private static void shortestOfNoSort() {
@@ -587,6 +717,10 @@ public final class TreeBoundaries extends TestKit {
         due("the empty row", x.check(), 1);
         row(x, 1);
         due("no tree", x.check(), 1);
+        row(x, 0);
+        due("one tree of one code", x.check(), 1);
+        row(x, -2);
+        due("a leaf", x.check(), 1);
         row(x, 0, 0);
         due("one tree", x.check(), 1);
         x.token(0);
@@ -596,6 +730,23 @@ public final class TreeBoundaries extends TestKit {
         rule(x, 0, -1);
         due("endless many", x.check(), 1);
         due("MANY", sixPlaces(11).check(), 1);
+    }
+
+    /** Without any question between, so that no other call can have looked at the new row. */
+    private static void checkOfANewRow() {
+        RuleTrees x = threeInARow();
+        due("size(0, 0)", x.size(0, 0), 5);
+        row(x, 0, 1, 0);
+        due("check() of another row", x.check(), 1);
+        row(x, 0, 0, 0);
+        due("size(0, 0)", x.size(0, 0), 5);
+        tape(x, 0, 0, -1, -2, -2);
+        due("grow(0)", x.grow(0), 0);
+        due("check() of a row that grew", x.check(), 1);
+        rule(x, 0, -1);
+        due("check() with one more rule", x.check(), 1);
+        x.sort();
+        due("check() with one more sort", x.check(), 1);
     }
 
     private static RuleTrees threeWithPlace() {
@@ -669,13 +820,18 @@ public final class TreeBoundaries extends TestKit {
             TreeBoundaries::anyVariableOfTheSort);
         sentence("Terms", "each variable, wherever it stands in it, replaced by the symbols of its tree",
             TreeBoundaries::sameWhereverItStands);
+        sentence("Terms", "each variable, wherever it stands in it, replaced by the symbols",
+            TreeBoundaries::sameInEverySymbol);
         sentence("Terms", "a tree of its sort for each different variable", TreeBoundaries::differentVariablesDiffer);
         sentence("Terms", "in the order in which these stand in it first", TreeBoundaries::codesByFirstPlace);
         sentence("Terms", "of a leaf -1 - v; of a rule its number", TreeBoundaries::greatestCodes);
         sentence("Terms", "that one is LESS which has less size", TreeBoundaries::lessSizeFirst);
         sentence("Terms", "the less code where their codes differ first", TreeBoundaries::lessCodeThen);
+        sentence("Terms", "the less code", TreeBoundaries::rulesThatAreAlike);
         sentence("Promise 9", "0 to 1000000", TreeBoundaries::noTrees);
         sentence("Promise 9", "0 to 1000000, MANY", TreeBoundaries::aMillionTrees);
+        sentence("Promise 9", "0 to 1000000, MANY, ENDLESS", TreeBoundaries::upToAMillion);
+        sentence("Terms", "A RULE, at most 30", TreeBoundaries::thirtyRulesOfOneVariable);
         sentence("Terms", "`MANY = -2`: More than 1000000.", TreeBoundaries::aMillionAndOne);
         sentence("Terms", "More than 1000000", TreeBoundaries::halfAMillionTwice);
         sentence("Terms", "More than 1000000.", TreeBoundaries::countsThatWouldWrap);
@@ -684,6 +840,8 @@ public final class TreeBoundaries extends TestKit {
         sentence("Promise 9", "MANY, ENDLESS", TreeBoundaries::endlessBesideNone);
         sentence("Promise 9", "ENDLESS", TreeBoundaries::aSortOfItself);
         sentence("Terms", "Endless many", TreeBoundaries::theLongestRound);
+        sentence("Terms", "SORTS, at most 6", TreeBoundaries::theRoundOfTheLastSort);
+        sentence("Terms", "Endless many.", TreeBoundaries::aboveARoundAndAnother);
         sentence("Promise 9", "NONE when there is no such sort", TreeBoundaries::treesOfNoSort);
         sentence("Promise 9", "or stretch", TreeBoundaries::treesOfNoStretch);
         sentence("Terms", "(0 <= from < to <= its length)", TreeBoundaries::firstAndLastStretch);
@@ -698,6 +856,7 @@ public final class TreeBoundaries extends TestKit {
         sentence("Promise 10", "for the whole row", TreeBoundaries::leastOfARow);
         sentence("Promise 11", "Code k of that tree", TreeBoundaries::longestOnlyTree);
         sentence("Promise 10", "the whole row", TreeBoundaries::treesFollowTheRow);
+        sentence("Promise 11", "that tree", TreeBoundaries::treesOfTheOldRowAreGone);
         sentence("Promise 12", "How many stretches have no tree of a sort (what 0)",
             TreeBoundaries::stretchesOfTheEmptyRow);
         sentence("Terms", "The ROW has at most 12 symbols", TreeBoundaries::stretchesOfTheFullRow);
@@ -714,6 +873,7 @@ public final class TreeBoundaries extends TestKit {
         sentence("Promise 21", "for each sort", TreeBoundaries::checkWithoutSorts);
         sentence("Promise 21", "the whole row has a least tree just if it has one, a next one just if it has more",
             TreeBoundaries::checkOfEachKind);
+        sentence("Promise 21", "and both are trees of the row", TreeBoundaries::checkOfANewRow);
         sentence("Promise 21", "Whether", TreeBoundaries::checkLeavesAll);
         sentence("Not promised", "Nothing is promised beyond the answers and state changes described above",
             TreeBoundaries::questionsLeaveAll);

@@ -85,6 +85,33 @@ abstract class TestKit {
         return x;
     }
 
+    /** One sort: two parts side by side (rule 0), or the constant 0 (rule 1). */
+    static RuleTrees pairs() {
+        RuleTrees x = withSorts(1);
+        x.variable(0);
+        x.variable(0);
+        rule(x, 0, -1, -2);
+        rule(x, 0, 0);
+        return x;
+    }
+
+    /**
+     * Sort 0: two parts with a 0 between them (rule 0), 1 on both sides (rule 1), or an item (rule 2);
+     * items are 3 and 4 (rules 3, 4). Variables 0 and 2 are of sort 0, variable 1 is an item.
+     */
+    static RuleTrees items() {
+        RuleTrees x = withSorts(2);
+        x.variable(0);
+        x.variable(1);
+        x.variable(0);
+        rule(x, 0, -1, 0, -3);
+        rule(x, 0, 1, -1, 1);
+        rule(x, 0, -2);
+        rule(x, 1, 3);
+        rule(x, 1, 4);
+        return x;
+    }
+
     static int rule(RuleTrees x, int sort, int... symbols) {
         due("begin(" + sort + ")", x.begin(sort), 1);
         for (int k = 0; k < symbols.length; k++) {
