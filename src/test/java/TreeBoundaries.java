@@ -475,11 +475,25 @@ public final class TreeBoundaries extends TestKit {
         }
     }
 
-    private static void sizeOfNoTree() {
-        for (int which : new int[] {2, -1, LEAST_INT, GREATEST_INT}) {
-            refused("size(0, " + which + ")", 0, TreeBoundaries::threeInARow, x -> x.size(0, which));
-            refused("code(0, " + which + ", 0)", NOTHING, TreeBoundaries::threeInARow, x -> x.code(0, which, 0));
+    /** The sorts before and behind have trees too: none of these may be taken for one of sort 1. */
+    private static RuleTrees threeSortsWithTwoTrees() {
+        RuleTrees x = withSorts(3);
+        for (int sort = 0; sort < 3; sort++) {
+            rule(x, sort, 7, 7);
+            rule(x, sort, 7, 7);
         }
+        row(x, 7, 7);
+        return x;
+    }
+
+    private static void sizeOfNoTree() {
+        for (int which : new int[] {2, -1, 3, -2, LEAST_INT, GREATEST_INT}) {
+            refused("size(1, " + which + ")", 0, TreeBoundaries::threeSortsWithTwoTrees, x -> x.size(1, which));
+            refused("code(1, " + which + ", 0)", NOTHING, TreeBoundaries::threeSortsWithTwoTrees,
+                x -> x.code(1, which, 0));
+        }
+        due("size(1, 1)", threeSortsWithTwoTrees().size(1, 1), 1);
+        due("code(1, 1, 0)", threeSortsWithTwoTrees().code(1, 1, 0), 3);
     }
 
     private static void codeAtNoPlace() {
