@@ -7,7 +7,9 @@ import java.nio.file.Files;
 import java.nio.file.Path;
 import java.util.ArrayList;
 import java.util.Arrays;
+import java.util.IdentityHashMap;
 import java.util.List;
+import java.util.Map;
 import java.util.TreeSet;
 
 /** The public face, the parts of the language that are left out, and how much room an object takes. */
@@ -22,6 +24,9 @@ public final class FaceTests {
         "throw", "throws", "try", "catch", "finally", "synchronized", "assert", "import", "package", "native",
         "volatile", "Exact", "System", "Thread", "Random", "Object", "->", "::"};
     private static final int MOST_ELEMENTS = 14000;
+    private static final int MOST_CLASSES = 12;
+    private static final int MOST_PARAMETERS = 7;
+    private static final int MOST_LINES = 60;
 
     private static int wrong = 0;
 
@@ -92,7 +97,40 @@ public final class FaceTests {
         }
     }
 
-    private static int elements(Object held) throws Exception {
+    /** Rule 11: short lists of parameters, few classes, short methods. */
+    private static void sizes() throws Exception {
+        Class<?>[] inside = RuleTrees.class.getDeclaredClasses();
+        due("at most " + MOST_CLASSES + " classes", 1 + inside.length <= MOST_CLASSES, true);
+        parameters(RuleTrees.class);
+        for (Class<?> one : inside) {
+            parameters(one);
+        }
+        String end = null;
+        int begin = 0;
+        int number = 0;
+        for (String line : Files.readAllLines(Path.of("src/main/java/RuleTrees.java"))) {
+            number++;
+            if (line.matches(" {4}( {4})?(?!if|for|while|switch)\\w[^=;]*\\) \\{")) {
+                begin = number;
+                end = line.replaceAll("\\S.*", "}");
+            } else if (line.equals(end)) {
+                due("lines " + begin + " to " + number + " are short", number - begin < MOST_LINES, true);
+                end = null;
+            }
+        }
+    }
+
+    private static void parameters(Class<?> type) {
+        for (Method method : type.getDeclaredMethods()) {
+            due(method + " has few parameters", method.getParameterCount() <= MOST_PARAMETERS, true);
+        }
+    }
+
+    /** What is reached by several ways is counted once. */
+    private static int elements(Object held, Map<Object, Boolean> counted) throws Exception {
+        if (counted.put(held, true) != null) {
+            return 0;
+        }
         if (held instanceof int[] row) {
             return row.length;
         }
@@ -102,14 +140,14 @@ public final class FaceTests {
                 continue;
             }
             field.setAccessible(true);
-            sum += 1 + (field.getType().isPrimitive() ? 0 : elements(field.get(held)));
+            sum += 1 + (field.getType().isPrimitive() ? 0 : elements(field.get(held), counted));
         }
         return sum;
     }
 
     /** Even a run that does nothing but make objects stays in the room of 7.3 million elements. */
     private static void room() throws Exception {
-        int told = elements(new RuleTrees());
+        int told = elements(new RuleTrees(), new IdentityHashMap<>());
         System.out.println("an object holds " + told + " fields and elements");
         due("at most " + MOST_ELEMENTS + " elements", told <= MOST_ELEMENTS, true);
         if (ManagementFactory.getThreadMXBean() instanceof com.sun.management.ThreadMXBean bean
@@ -155,6 +193,7 @@ public final class FaceTests {
     public static void main(String[] args) throws Exception {
         face();
         language();
+        sizes();
         room();
         System.out.println(wrong == 0 ? "the face is as due" : wrong + " things are not as due");
         if (wrong != 0) {
